@@ -299,7 +299,7 @@ public final class CanalMaps {
 
     public int busiest(int place) throws NoSuchElementException {
         for (int surveyor = 0; surveyor < now.surveyors; surveyor++) {
-            if (now.busierThan(surveyor) == place) {
+            if (now.countAhead(surveyor) == place) {
                 return surveyor;
             }
         }
@@ -312,7 +312,7 @@ public final class CanalMaps {
         if (text.isFull()) {
             throw new IllegalStateException("the buffer contains 60 characters");
         }
-        text.add(character);
+        text.write(character);
         return text.length;
     }
 
@@ -660,7 +660,7 @@ public final class CanalMaps {
             return removed;
         }
 
-        void copyFrom(Letters other) {
+        void takeOver(Letters other) {
             if (packed.length < other.count) {
                 packed = new int[2 * other.count];
             }
@@ -696,7 +696,7 @@ public final class CanalMaps {
             System.arraycopy(other.districts, 0, districts, 0, SURVEYORS);
             System.arraycopy(other.costs, 0, costs, 0, PAIRS);
             System.arraycopy(other.maps, 0, maps, 0, PAIRS);
-            letters.copyFrom(other.letters);
+            letters.takeOver(other.letters);
             surveyors = other.surveyors;
             ticks = other.ticks;
             arrived = other.arrived;
@@ -798,7 +798,7 @@ public final class CanalMaps {
         }
 
         /** How many surveyors stand before one in the order by neighbours. */
-        int busierThan(int surveyor) {
+        int countAhead(int surveyor) {
             int count = 0;
             for (int other = 0; other < surveyors; other++) {
                 int ahead = neighboursOf(other) - neighboursOf(surveyor);
@@ -1176,7 +1176,7 @@ public final class CanalMaps {
         private int place = 0;
 
         /** The command that was read last. */
-        private Change change = null;
+        private Change change = Change.COME;
 
         private final int[] numbers = new int[NUMBERS];
 
@@ -1184,7 +1184,7 @@ public final class CanalMaps {
             return length >= MOST_SIGNS;
         }
 
-        void add(char sign) {
+        void write(char sign) {
             if (!isFull()) {
                 signs[length] = sign;
                 length++;
@@ -1235,10 +1235,11 @@ public final class CanalMaps {
 
         /** Reads a command up to what ends it, and answers true, or up to a fault. */
         boolean readCommand() {
-            change = place >= 0 && place < length ? Change.beginningWith(signs[place]) : null;
-            if (change == null) {
+            Change begun = place >= 0 && place < length ? Change.beginningWith(signs[place]) : null;
+            if (begun == null) {
                 return false;
             }
+            change = begun;
             place++;
             Arrays.fill(numbers, 0);
             String form = change.form;
