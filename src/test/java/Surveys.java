@@ -21,6 +21,18 @@ final class Surveys {
         return x;
     }
 
+    /** Surveyors with a canal of cost 1 between any two, and all letters arrived. */
+    static CanalMaps mesh(int surveyors) {
+        CanalMaps x = of(surveyors);
+        for (int one = 0; one < surveyors; one++) {
+            for (int other = one + 1; other < surveyors; other++) {
+                x.canal(one, other, 1);
+            }
+        }
+        settle(x);
+        return x;
+    }
+
     /** Lets ticks go by until no letter is on its way. */
     static void settle(CanalMaps x) {
         int ticks = x.settledIn();
@@ -33,6 +45,39 @@ final class Surveys {
     static void loseUntil(CanalMaps x, int left) {
         for (int letters = x.account(3); letters > left; letters--) {
             x.lose();
+        }
+    }
+
+    /** Gives a canal a cost, if it has another one. */
+    static void tryCanal(CanalMaps x, int one, int other, int cost) {
+        try {
+            x.canal(one, other, cost);
+        } catch (UnsupportedOperationException soAlready) {
+            x.reason(false, false);
+        }
+    }
+
+    static void intoDistrict(CanalMaps x, int surveyor, int district) {
+        if (x.surveyorOf(surveyor, 0) != district) {
+            x.district(surveyor, district);
+        }
+    }
+
+    /** The serial of a page in a map, 0 if it has no such page. */
+    static int serialOr0(CanalMaps x, int surveyor, int origin) {
+        try {
+            return x.page(surveyor, origin, 0);
+        } catch (java.util.NoSuchElementException none) {
+            return 0;
+        }
+    }
+
+    /** What a call answers, or "none" if there is no such thing. */
+    static String answer(java.util.function.Supplier<Object> call) {
+        try {
+            return "" + call.get();
+        } catch (java.util.NoSuchElementException none) {
+            return "none";
         }
     }
 
@@ -94,6 +139,28 @@ final class Surveys {
             return "" + (isCost ? x.cost(one, other) : x.page(one, other, 1));
         } catch (java.util.NoSuchElementException none) {
             return "-";
+        }
+    }
+
+    /** The line as it stands. */
+    static String written(CanalMaps x) {
+        StringBuilder text = new StringBuilder();
+        for (int index = 0; index < 512; index++) {
+            try {
+                text.append(x.character(index));
+            } catch (IndexOutOfBoundsException end) {
+                break;
+            }
+        }
+        return text.toString();
+    }
+
+    /** The reason as below, or "none" if nothing was refused. */
+    static String keptReason(CanalMaps x) {
+        try {
+            return reason(x);
+        } catch (java.util.NoSuchElementException none) {
+            return "none";
         }
     }
 
