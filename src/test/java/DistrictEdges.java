@@ -103,6 +103,31 @@ final class DistrictEdges {
         Check.is(true, agreement.of(y, 0));
     }
 
+    /** Whichever one it is who renews its page, and whoever has the old one: all else is alike. */
+    private static void onlyOneOldPage(Agreement agreement) {
+        for (int pair = 0; pair < 36; pair++) {
+            int renewed = pair / 6;
+            int old = pair % 6;
+            if (renewed == old) {
+                continue;
+            }
+            int elsewhere = Surveys.lowestBut(renewed, old);
+            CanalMaps x = Surveys.of(6);
+            for (int surveyor = 0; surveyor < 6; surveyor++) {
+                Surveys.intoDistrict(x, surveyor, surveyor == renewed || surveyor == old ? 0 : 1);
+            }
+            x.canal(renewed, old, 1);
+            x.canal(renewed, elsewhere, 1);
+            Surveys.settle(x);
+            Check.is(true, agreement.of(x, 0));
+            x.district(elsewhere, 2);
+            Check.is(1, x.account(3));
+            Check.is(false, agreement.of(x, 0));
+            Surveys.settle(x);
+            Check.is(true, agreement.of(x, 0));
+        }
+    }
+
     private static void districtsOutside(Agreement agreement) {
         for (int bad : Edge.outside(0, 2)) {
             Edge.isThrown(Edge.BAD, DistrictEdges::four, x -> agreement.of(x, bad));
@@ -118,6 +143,7 @@ final class DistrictEdges {
         agreements(CanalMaps::agree);
         pagesOfOtherDistricts(CanalMaps::agree);
         serialsThatDiffer(CanalMaps::agree);
+        onlyOneOldPage(CanalMaps::agree);
     }
 
     @Sentence(of = 21, value = {"Returns the same by a second way: of each surveyor of the district, all of the district",
@@ -126,6 +152,7 @@ final class DistrictEdges {
         agreements(CanalMaps::agreeAgain);
         pagesOfOtherDistricts(CanalMaps::agreeAgain);
         serialsThatDiffer(CanalMaps::agreeAgain);
+        onlyOneOldPage(CanalMaps::agreeAgain);
     }
 
     @Sentence(of = 20, value = "Throws `IllegalArgumentException` if there is no such district")

@@ -57,6 +57,16 @@ final class Surveys {
         }
     }
 
+    /** The lowest surveyor that is neither of two. */
+    static int lowestBut(int one, int other) {
+        for (int surveyor = 0; surveyor < 2; surveyor++) {
+            if (surveyor != one && surveyor != other) {
+                return surveyor;
+            }
+        }
+        return 2;
+    }
+
     static void intoDistrict(CanalMaps x, int surveyor, int district) {
         if (x.surveyorOf(surveyor, 0) != district) {
             x.district(surveyor, district);

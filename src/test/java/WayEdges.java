@@ -420,6 +420,36 @@ final class WayEdges {
         Check.is(true, x.isRight(0));
     }
 
+    /** Whichever one it is, and though all others are right: too near, not there any more, or not there yet. */
+    @Sentence(of = 19, value = "Returns whether the map of a surveyor knows a way just to those to whom there is one,")
+    static void onlyOneThatIsWrong() {
+        for (int pair = 0; pair < 36; pair++) {
+            int from = pair / 6;
+            int wrong = pair % 6;
+            if (from == wrong) {
+                continue;
+            }
+            int between = Surveys.lowestBut(from, wrong);
+            for (int kind = 0; kind < 3; kind++) {
+                CanalMaps x = Surveys.of(6);
+                x.canal(from, between, 1);
+                if (kind < 2) {
+                    x.canal(between, wrong, 1);
+                }
+                Surveys.settle(x);
+                Check.is(true, x.isRight(from));
+                if (kind == 1) {
+                    x.close(between, wrong);
+                } else {
+                    x.canal(between, wrong, 2);
+                }
+                Surveys.loseUntil(x, 0);
+                Check.is(false, x.isRight(from));
+                Check.is(kind < 2, x.isRight(between));
+            }
+        }
+    }
+
     @Sentence(of = 19, value = "Throws `IndexOutOfBoundsException` if there is no such surveyor")
     static void isRightOfSurveyorsOutside() {
         for (int bad : Edge.outside(0, 5)) {
