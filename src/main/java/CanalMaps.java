@@ -725,7 +725,8 @@ public final class CanalMaps {
         }
 
         boolean areNeighbours(int one, int other) {
-            return costs[pair(one, other)] > 0 && districts[one] == districts[other];
+            return has(one) && has(other)
+                    && costs[pair(one, other)] > 0 && districts[one] == districts[other];
         }
 
         /** The page of a surveyor in the map of another one, blank if there is none. */
