@@ -63,13 +63,22 @@ public final class PlainTest {
     private boolean same(String call, int which, Supplier<Object> one, Supplier<Object> other) {
         calls.append(call).append("; ");
         Object due = answer(other);
-        Object got = answer(one);
+        Object got = answer(() -> withWrittenThrows(one));
         (due instanceof Class ? threw : answered)[which]++;
         if (!due.equals(got)) {
             Check.fail(calls + " answered " + got + ", due is " + due);
             return false;
         }
         return true;
+    }
+
+    private static Object withWrittenThrows(Supplier<Object> call) {
+        try {
+            return call.get();
+        } catch (RuntimeException thrown) {
+            Check.isWritten(thrown);
+            throw thrown;
+        }
     }
 
     private static Object answer(Supplier<Object> call) {
