@@ -13,7 +13,7 @@ import java.util.regex.Pattern;
 import java.util.stream.Stream;
 import javax.tools.ToolProvider;
 
-/** The calls in README.md answer and throw what stands behind them, and its tables tell what is thrown where. */
+/** The calls in README.md answer and throw what stands behind them, and its tables tell what is thrown, and why. */
 public final class ReadmeTest {
     /** A call, with its answer or the exception at the beginning of the comment. */
     private static final Pattern CALL =
@@ -37,6 +37,7 @@ public final class ReadmeTest {
         }
         namesEachCall();
         tellsWhatIsThrown();
+        tellsTheReasons();
         namesEachTest();
         Check.end();
     }
@@ -130,6 +131,19 @@ public final class ReadmeTest {
             }
         }
         Check.is(due, got);
+    }
+
+    private static void tellsTheReasons() throws Exception {
+        String document = Files.readString(Path.of("../shared/DOC.md")).replaceAll("\\s+", " ");
+        List<String> rows = rowsAfter("### How the reason is asked for");
+        Check.is(2 + 8, rows.size());
+        for (int reason = 1; reason < rows.size() - 1; reason++) {
+            String[] cells = rows.get(reason + 1).split(" *\\| *");
+            String detail = cells[3].equals("0") ? "" : ": " + cells[3];
+            String told = " " + cells[1] + ", " + cells[2] + detail;
+            Check.is(String.valueOf(reason), cells[1]);
+            Check.isTrue(document.contains(told + ";") || document.contains(told + "."), told + " is not so");
+        }
     }
 
     private static void namesEachTest() throws Exception {
